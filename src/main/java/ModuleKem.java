@@ -227,12 +227,17 @@ public final class ModuleKem {
             return hashPlace() + 2 * SEED_SIZE;
         }
 
+        /** The bytes of one of the polynomials U in a packet; V stands behind the last of them. */
+        int vectorPartSize() {
+            return COEFFICIENTS / 8 * vectorBits;
+        }
+
         int scalarPlace() {
-            return 32 * vectorBits * rank;
+            return vectorPartSize() * rank;
         }
 
         int packetSize() {
-            return scalarPlace() + 32 * scalarBits;
+            return scalarPlace() + COEFFICIENTS / 8 * scalarBits;
         }
     }
 
@@ -261,44 +266,50 @@ public final class ModuleKem {
             lanes = new long[LANES];
             moved = new long[LANES];
             columns = new long[5];
-            turns = new int[LANES];
-            targets = new int[LANES];
-            roundConstants = new long[ROUNDS];
+            turns = newTurns();
+            targets = newTargets();
+            roundConstants = newRoundConstants();
             rate = SHA3_256_RATE;
             place = 0;
-            fillTargets(targets);
-            fillTurns(turns, targets);
-            fillRoundConstants(roundConstants);
         }
 
-        private static void fillTargets(int[] targets) {
-            for (int b = 0; b < 5; b++) {
-                for (int a = 0; a < 5; a++) {
-                    targets[a + 5 * b] = b + 5 * ((2 * a + 3 * b) % 5);
-                }
+        /** Lane (a, b) is kept at a + 5 b; this is the place of B[b, 2 a + 3 b]. */
+        private static int target(int a, int b) {
+            return b + 5 * ((2 * a + 3 * b) % 5);
+        }
+
+        private static int[] newTargets() {
+            int[] made = new int[LANES];
+            for (int lane = 0; lane < LANES; lane++) {
+                made[lane] = target(lane % 5, lane / 5);
             }
+            return made;
         }
 
-        private static void fillTurns(int[] turns, int[] targets) {
+        private static int[] newTurns() {
+            int[] made = new int[LANES];
             int lane = 1;
-            for (int t = 0; t < 24; t++) {
-                turns[lane] = (t + 1) * (t + 2) / 2 % 64;
-                lane = targets[lane];
+            for (int t = 0; t < LANES - 1; t++) {
+                made[lane] = (t + 1) * (t + 2) / 2 % 64;
+                lane = target(lane % 5, lane / 5);
             }
+            return made;
         }
 
-        private static void fillRoundConstants(long[] constants) {
+        private static long[] newRoundConstants() {
+            long[] made = new long[ROUNDS];
             int register = 1;
             for (int i = 0; i < ROUNDS; i++) {
                 for (int j = 0; j < 7; j++) {
                     long bit = register & 1;
-                    constants[i] |= bit << ((1 << j) - 1);
+                    made[i] |= bit << ((1 << j) - 1);
                     register = register << 1;
                     if (register > 255) {
                         register = (register & 255) ^ 113;
                     }
                 }
             }
+            return made;
         }
 
         void start(int newRate) {
@@ -439,9 +450,9 @@ public final class ModuleKem {
         private final int[] powers;
 
         Ring() {
-            powers = new int[128];
+            powers = new int[COEFFICIENTS / 2];
             int power = 1;
-            for (int i = 0; i < 128; i++) {
+            for (int i = 0; i < powers.length; i++) {
                 powers[turnedRound(i)] = power;
                 power = power * ROOT % Q;
             }
@@ -547,7 +558,7 @@ public final class ModuleKem {
         private final byte[] noiseBytes;
         private final byte[] hash;
         private final byte[] message;
-        private final byte[] packetAgain;
+        private final byte[] encrypted;
         /** The 64 bytes of the last SHA3-512: a seed or key, then the seed of all noise. */
         private final byte[] seeds;
 
@@ -563,7 +574,7 @@ public final class ModuleKem {
             noiseBytes = new byte[64 * MAX_KEY_NOISE];
             hash = new byte[SEED_SIZE];
             message = new byte[SEED_SIZE];
-            packetAgain = new byte[MAX_PACKET];
+            encrypted = new byte[MAX_PACKET];
             seeds = new byte[2 * SEED_SIZE];
         }
 
@@ -588,7 +599,7 @@ public final class ModuleKem {
             }
             System.arraycopy(seeds, 0, publicKey, shape.numbersSize(), SEED_SIZE);
             System.arraycopy(publicKey, 0, secretKey, shape.numbersSize(), shape.publicSize());
-            hashInto(publicKey, 0, shape.publicSize());
+            fillHash(publicKey, 0, shape.publicSize());
             System.arraycopy(hash, 0, secretKey, shape.hashPlace(), SEED_SIZE);
             System.arraycopy(random, SEED_SIZE, secretKey, shape.hashPlace() + SEED_SIZE, SEED_SIZE);
         }
@@ -607,16 +618,16 @@ public final class ModuleKem {
         }
 
         void wrap(Shape shape, byte[] publicKey, byte[] random, byte[] packet, byte[] shared) {
-            hashInto(publicKey, 0, shape.publicSize());
+            fillHash(publicKey, 0, shape.publicSize());
             deriveSeeds(random, hash, 0);
             encrypt(shape, publicKey, 0, random);
-            System.arraycopy(packetAgain, 0, packet, 0, shape.packetSize());
+            System.arraycopy(encrypted, 0, packet, 0, shape.packetSize());
             System.arraycopy(seeds, 0, shared, 0, SEED_SIZE);
         }
 
         /** Whether h in the secret key is the hash of the public key in it. */
         boolean holdsItsHash(Shape shape, byte[] secretKey) {
-            hashInto(secretKey, shape.numbersSize(), shape.publicSize());
+            fillHash(secretKey, shape.numbersSize(), shape.publicSize());
             return startAlike(secretKey, shape.hashPlace(), hash, SEED_SIZE);
         }
 
@@ -625,7 +636,7 @@ public final class ModuleKem {
             recoverMessage(shape, secretKey, packet);
             deriveSeeds(message, secretKey, shape.hashPlace());
             encrypt(shape, secretKey, shape.numbersSize(), message);
-            boolean genuine = startAlike(packet, 0, packetAgain, shape.packetSize());
+            boolean genuine = startAlike(packet, 0, encrypted, shape.packetSize());
             if (genuine) {
                 System.arraycopy(seeds, 0, shared, 0, SEED_SIZE);
             } else {
@@ -641,7 +652,7 @@ public final class ModuleKem {
         private void recoverMessage(Shape shape, byte[] secretKey, byte[] packet) {
             Ring.clear(sum);
             for (int j = 0; j < shape.rank; j++) {
-                Bits.unpackCompressed(packet, 32 * shape.vectorBits * j, shape.vectorBits, vector[j]);
+                Bits.unpackCompressed(packet, shape.vectorPartSize() * j, shape.vectorBits, vector[j]);
                 ring.transform(vector[j]);
                 Bits.unpackNumbers(secretKey, NUMBERS_SIZE * j, term);
                 ring.addProduct(sum, term, vector[j]);
@@ -652,7 +663,7 @@ public final class ModuleKem {
             Bits.packCompressed(sum, 1, message, 0);
         }
 
-        /** ENCRYPT into packetAgain; P stands in the key from a place on, r in the second half of the seeds. */
+        /** ENCRYPT into encrypted; P stands in the key from a place on, r in the second half of the seeds. */
         private void encrypt(Shape shape, byte[] key, int at, byte[] plain) {
             sampleMatrix(shape.rank, key, at + shape.numbersSize());
             fillVector(shape);
@@ -671,7 +682,7 @@ public final class ModuleKem {
             ring.transformBack(sum);
             fillWithNoise(term, WRAP_NOISE, k + i);
             Ring.add(sum, term);
-            Bits.packCompressed(sum, shape.vectorBits, packetAgain, 32 * shape.vectorBits * i);
+            Bits.packCompressed(sum, shape.vectorBits, encrypted, shape.vectorPartSize() * i);
         }
 
         private void encryptScalar(Shape shape, byte[] key, int at, byte[] plain) {
@@ -685,7 +696,7 @@ public final class ModuleKem {
             Ring.add(sum, term);
             Bits.unpackCompressed(plain, 0, 1, term);
             Ring.add(sum, term);
-            Bits.packCompressed(sum, shape.scalarBits, packetAgain, shape.scalarPlace());
+            Bits.packCompressed(sum, shape.scalarBits, encrypted, shape.scalarPlace());
         }
 
         /** A[i, j] goes to row i k + j of the matrix. */
@@ -749,7 +760,7 @@ public final class ModuleKem {
             }
         }
 
-        private void hashInto(byte[] row, int at, int n) {
+        private void fillHash(byte[] row, int at, int n) {
             sponge.start(Sponge.SHA3_256_RATE);
             sponge.take(row, at, n);
             sponge.finish(Sponge.SHA3_SUFFIX);

@@ -23,6 +23,8 @@ public final class KemTest {
             openAnotherPacket(set);
             openTakesNumbersModuloQ(set);
             openTakesAnyNumbers(set);
+            openRoundsHalfway(set);
+            openRoundsVectors(set);
         }
         setsAreApart();
         Checks.finish("KemTest");
@@ -308,6 +310,69 @@ public final class KemTest {
         Checks.put(x, 5, packet);
         Checks.due("kemOpen(" + set + ") with ones", () -> x.kemOpen(set), (int) opened[1][0]);
         Checks.holdsBytes("SHARED of that", x, 6, opened[0]);
+    }
+
+    /** A secret key of one's own numbers, with the hash and a z of zeros behind them. */
+    private static byte[] secretOf(byte[] numbers, byte[] p) {
+        return Reference.join(numbers, p, Reference.sha3(256, p), new byte[32]);
+    }
+
+    /** The transform of a polynomial that is but a number, as BYTES. */
+    private static byte[] constant(int value) {
+        return Reference.bits(Reference.ntt(constantPolynomial(value)), 12);
+    }
+
+    private static int[] constantPolynomial(int value) {
+        int[] f = new int[256];
+        f[0] = value;
+        return f;
+    }
+
+    /**
+     * Rounding in DECOMPRESS is lost in the noise with keys that kemKeys makes. Here S is 0 and T 0 a number that the
+     * largest noise brings close to -q / 4, where the number from the packet is just 2497, and 2496 would be a 1.
+     */
+    private static void openRoundsHalfway(int set) {
+        int k = Reference.K[set];
+        int number = 832 / Reference.E1[set];
+        byte[] rest = Checks.randomBytes(RANDOM, 32);
+        byte[] p = Reference.join(constant(number), new byte[384 * (k - 1)], rest);
+        byte[][] wrapped = Reference.wrap(set, p, new byte[32]);
+        ModuleKem x = new ModuleKem();
+        Checks.put(x, 2, secretOf(new byte[384 * k], p));
+        Checks.put(x, 5, wrapped[0]);
+        Checks.due("kemOpen(" + set + ") halfway between 0 and 1", () -> x.kemOpen(set), 1);
+        Checks.holdsBytes("SHARED of that", x, 6, wrapped[1]);
+    }
+
+    /** S 0 is a number, T what belongs to it without noise: some rounding of U is then made so large as to tell. */
+    private static void openRoundsVectors(int set) {
+        int k = Reference.K[set];
+        int genuine = 0;
+        int rejected = 0;
+        for (int i = 0; i < 30; i++) {
+            byte[] seed = Checks.randomBytes(RANDOM, 32);
+            int[][][] a = Reference.matrix(k, seed);
+            int[] s = Reference.ntt(constantPolynomial((set == 2 ? 262 : 190) + i));
+            byte[] p = new byte[0];
+            for (int j = 0; j < k; j++) {
+                p = Reference.join(p, Reference.bits(Reference.times(a[j][0], s), 12));
+            }
+            p = Reference.join(p, seed);
+            byte[] secret = secretOf(Reference.join(Reference.bits(s, 12), new byte[384 * (k - 1)]), p);
+            byte[][] wrapped = Reference.wrap(set, p, Checks.randomBytes(RANDOM, 32));
+            byte[][] opened = Reference.open(set, secret, wrapped[0]);
+            int answer = opened[1][0];
+            genuine += answer;
+            rejected += 1 - answer;
+            ModuleKem x = new ModuleKem();
+            Checks.put(x, 2, secret);
+            Checks.put(x, 5, wrapped[0]);
+            Checks.due("kemOpen(" + set + ") with a key of large numbers", () -> x.kemOpen(set), answer);
+            Checks.holdsBytes("SHARED of that", x, 6, opened[0]);
+        }
+        Checks.holds("some of set " + set + " are opened: " + genuine, genuine > 2);
+        Checks.holds("some of set " + set + " are rejected: " + rejected, rejected > 2);
     }
 
     private static void setsAreApart() {

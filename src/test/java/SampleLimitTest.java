@@ -1,4 +1,6 @@
 import java.lang.reflect.Field;
+import java.lang.reflect.InvocationTargetException;
+import java.lang.reflect.Method;
 import java.util.Arrays;
 
 /**
@@ -15,6 +17,7 @@ public final class SampleLimitTest {
             justTooFew(set);
             justEnough(set);
         }
+        lastTripleCounts();
         Checks.finish("SampleLimitTest");
     }
 
@@ -36,6 +39,36 @@ public final class SampleLimitTest {
         Checks.due("kemWrap(" + set + ") with 52 a block", () -> x.kemWrap(set), Reference.packetSize(set));
         x.resize(0, 64);
         Checks.due("kemKeys(" + set + ") with 52 a block", () -> x.kemKeys(set), Reference.secretSize(set));
+    }
+
+    /** With the first block set apart from the other four, the 256th number can be the very last. */
+    private static void lastTripleCounts() throws ReflectiveOperationException {
+        Checks.due("52 and four times 51 numbers", () -> sampled(blockWith(52), blockWith(51)), "enough");
+        Checks.due("51 and four times 51 numbers", () -> sampled(blockWith(51), blockWith(51)), LIMIT);
+    }
+
+    private static String sampled(byte[] first, byte[] others) {
+        try {
+            ModuleKem x = new ModuleKem();
+            fixSponge(x, others);
+            Object kem = inside(x, "kem");
+            Object sponge = inside(kem, "sponge");
+            Method start = sponge.getClass().getDeclaredMethod("start", int.class);
+            start.setAccessible(true);
+            start.invoke(sponge, RATE);
+            long[] lanes = (long[]) inside(sponge, "lanes");
+            for (int i = 0; i < lanes.length; i++) {
+                lanes[i] = lane(first, i);
+            }
+            Method sample = kem.getClass().getDeclaredMethod("sample", int[].class);
+            sample.setAccessible(true);
+            sample.invoke(kem, new int[256]);
+            return "enough";
+        } catch (InvocationTargetException e) {
+            return "throws." + e.getCause().getClass().getSimpleName();
+        } catch (ReflectiveOperationException e) {
+            return e.toString();
+        }
     }
 
     private static void refusesAndStays(ModuleKem x, int set) {
@@ -70,14 +103,25 @@ public final class SampleLimitTest {
         return x;
     }
 
-    /** A block of 56 times three bytes with n numbers below q, each of them 0, and the rest 4095. */
+    /**
+     * A block of 56 times three bytes with n numbers of 0: one at its start, where a 281st triple would find it, the
+     * others at its end, where a 279th would not. The numbers between are 4095.
+     */
     private static byte[] blockWith(int n) {
         byte[] block = new byte[200];
         Arrays.fill(block, (byte) 255);
-        for (int bit = 0; bit < 12 * n; bit++) {
-            block[bit / 8] &= (byte) ~(1 << bit % 8);
+        for (int number = 0; number < 112; number++) {
+            if (n > 0 && number == 0 || number > 112 - n) {
+                clearNumber(block, number);
+            }
         }
         return block;
+    }
+
+    private static void clearNumber(byte[] block, int number) {
+        for (int bit = 12 * number; bit < 12 * number + 12; bit++) {
+            block[bit / 8] &= (byte) ~(1 << bit % 8);
+        }
     }
 
     private static void fixSponge(ModuleKem x, byte[] block) throws ReflectiveOperationException {
@@ -93,7 +137,6 @@ public final class SampleLimitTest {
         // Place 24 is written to in every round; with ones at 21 the last lane of the block is free of it.
         moved[20] = lane(block, 20);
         moved[21] = -1;
-        Checks.holds("the block is the sponge's whole rate", RATE == 8 * 21);
     }
 
     private static long lane(byte[] block, int lane) {
