@@ -31,13 +31,8 @@ public final class LanguageTest {
         "long word(int, int) IllegalArgumentException, IndexOutOfBoundsException",
     };
 
-    public static void main(String[] args) throws IOException, ReflectiveOperationException {
-        faceIsTheDocuments();
-        membersKeepTheRules();
-        sourceKeepsTheRules();
-        objectIsSmall();
-        callsMakeNothing();
-        Checks.finish("LanguageTest");
+    public static void main(String[] args) {
+        Checks.run(LanguageTest.class);
     }
 
     private static void faceIsTheDocuments() {

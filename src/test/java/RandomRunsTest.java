@@ -20,13 +20,16 @@ public final class RandomRunsTest {
     }
 
     public static void main(String[] args) {
+        Checks.run(RandomRunsTest.class);
+    }
+
+    private static void everyAnswerIsTheModels() {
         for (int run = 0; run < RUNS; run++) {
             RandomRunsTest test = new RandomRunsTest(run);
             while (test.calls + MOST_AT_ONCE <= CALLS) {
                 test.callAtRandom();
             }
         }
-        Checks.finish("RandomRunsTest");
     }
 
     private void compare(String call, Checks.Call got, Checks.Call want) {

@@ -12,6 +12,12 @@ final class Reference {
     static final int[] DU = {10, 10, 11};
     static final int[] DV = {4, 4, 5};
 
+    // Each of these by its formula, but only once: they are what takes the time.
+    private static final int[][] TURNS = turns();
+    private static final long[] ROUND_CONSTANTS = roundConstants();
+    private static final int[] SQUARES = squares();
+    private static final int[] INVERSE_SQUARES = inverseSquares();
+
     private Reference() {
     }
 
@@ -76,7 +82,6 @@ final class Reference {
 
     private static long[][] permute(long[][] start) {
         long[][] a = start;
-        int[][] o = turns();
         for (int i = 0; i < 24; i++) {
             long[] c = new long[5];
             for (int x = 0; x < 5; x++) {
@@ -88,7 +93,7 @@ final class Reference {
             for (int x = 0; x < 5; x++) {
                 for (int y = 0; y < 5; y++) {
                     long lane = a[x][y] ^ c[(x + 4) % 5] ^ Long.rotateLeft(c[(x + 1) % 5], 1);
-                    b[y][(2 * x + 3 * y) % 5] = Long.rotateLeft(lane, o[x][y]);
+                    b[y][(2 * x + 3 * y) % 5] = Long.rotateLeft(lane, TURNS[x][y]);
                 }
             }
             long[][] next = new long[5][5];
@@ -97,7 +102,7 @@ final class Reference {
                     next[x][y] = b[x][y] ^ (~b[(x + 1) % 5][y] & b[(x + 2) % 5][y]);
                 }
             }
-            next[0][0] ^= roundConstant(i);
+            next[0][0] ^= ROUND_CONSTANTS[i];
             a = next;
         }
         return a;
@@ -116,14 +121,16 @@ final class Reference {
         return o;
     }
 
-    private static long roundConstant(int i) {
-        long constant = 0;
-        for (int j = 0; j <= 6; j++) {
-            if (registerBit(j + 7 * i)) {
-                constant |= 1L << ((1 << j) - 1);
+    private static long[] roundConstants() {
+        long[] constants = new long[24];
+        for (int i = 0; i < 24; i++) {
+            for (int j = 0; j <= 6; j++) {
+                if (registerBit(j + 7 * i)) {
+                    constants[i] |= 1L << ((1 << j) - 1);
+                }
             }
         }
-        return constant;
+        return constants;
     }
 
     private static boolean registerBit(int t) {
@@ -185,15 +192,27 @@ final class Reference {
     }
 
     /** 17^(2 rev 7 (i) + 1), the square of X at pair i. */
-    static int square(int i) {
-        int turned = Integer.reverse(i) >>> 25;
-        return power(17, 2 * turned + 1);
+    private static int[] squares() {
+        int[] squares = new int[128];
+        for (int i = 0; i < 128; i++) {
+            int turned = Integer.reverse(i) >>> 25;
+            squares[i] = power(17, 2 * turned + 1);
+        }
+        return squares;
+    }
+
+    private static int[] inverseSquares() {
+        int[] inverses = new int[128];
+        for (int i = 0; i < 128; i++) {
+            inverses[i] = power(SQUARES[i], Q - 2);
+        }
+        return inverses;
     }
 
     static int[] ntt(int[] f) {
         int[] g = new int[256];
         for (int i = 0; i < 128; i++) {
-            int square = square(i);
+            int square = SQUARES[i];
             int power = 1;
             for (int j = 0; j < 128; j++) {
                 g[2 * i] = Math.floorMod(g[2 * i] + f[2 * j] * power, Q);
@@ -209,7 +228,7 @@ final class Reference {
         int[] f = new int[256];
         int inverse128 = power(128, Q - 2);
         for (int i = 0; i < 128; i++) {
-            int inverse = power(square(i), Q - 2);
+            int inverse = INVERSE_SQUARES[i];
             int power = inverse128;
             for (int j = 0; j < 128; j++) {
                 f[2 * j] = (f[2 * j] + g[2 * i] * power) % Q;
@@ -223,7 +242,7 @@ final class Reference {
     static int[] times(int[] f, int[] g) {
         int[] answer = new int[256];
         for (int i = 0; i < 256; i += 2) {
-            long square = square(i / 2);
+            long square = SQUARES[i / 2];
             answer[i] = (int) (((long) f[i] * g[i] + square * f[i + 1] * g[i + 1]) % Q);
             answer[i + 1] = (int) (((long) f[i] * g[i + 1] + (long) f[i + 1] * g[i]) % Q);
         }
@@ -341,47 +360,83 @@ final class Reference {
         return new byte[][] {p, join(secret, p, sha3(256, p), z)};
     }
 
-    static byte[] encrypt(int set, byte[] p, byte[] m, byte[] r) {
+    /** U 0, .., V of ENCRYPT, before they are COMPRESSED. */
+    static int[][] encrypted(int set, byte[] p, byte[] m, byte[] r) {
         int k = K[set];
         int[][][] a = matrix(k, part(p, 384 * k, 32));
         int[][] y = new int[k][];
         for (int i = 0; i < k; i++) {
             y[i] = ntt(noise(E1[set], r, i));
         }
-        byte[] answer = new byte[0];
+        int[][] answer = new int[k + 1][];
         for (int i = 0; i < k; i++) {
             int[] u = new int[256];
             for (int j = 0; j < k; j++) {
                 u = plus(u, times(a[j][i], y[j]));
             }
-            u = plus(unntt(u), noise(2, r, k + i));
-            answer = join(answer, bits(compress(DU[set], u), DU[set]));
+            answer[i] = plus(unntt(u), noise(2, r, k + i));
         }
         int[] v = new int[256];
         for (int j = 0; j < k; j++) {
             v = plus(v, times(modulo(unbits(p, 384 * j, 12)), y[j]));
         }
-        v = plus(plus(unntt(v), noise(2, r, 2 * k)), decompress(1, unbits(m, 0, 1)));
-        return join(answer, bits(compress(DV[set], v), DV[set]));
+        answer[k] = plus(plus(unntt(v), noise(2, r, 2 * k)), decompress(1, unbits(m, 0, 1)));
+        return answer;
+    }
+
+    static byte[] encrypt(int set, byte[] p, byte[] m, byte[] r) {
+        int[][] polynomials = encrypted(set, p, m, r);
+        byte[] answer = new byte[0];
+        for (int i = 0; i <= K[set]; i++) {
+            int d = i < K[set] ? DU[set] : DV[set];
+            answer = join(answer, bits(compress(d, polynomials[i]), d));
+        }
+        return answer;
+    }
+
+    /** K | r of WRAP. */
+    static byte[] keyAndSeed(byte[] p, byte[] m) {
+        return sha3(512, join(m, sha3(256, p)));
     }
 
     /** The ciphertext and the key. */
     static byte[][] wrap(int set, byte[] p, byte[] m) {
-        byte[] kr = sha3(512, join(m, sha3(256, p)));
+        byte[] kr = keyAndSeed(p, m);
         return new byte[][] {encrypt(set, p, m, part(kr, 32, 32)), part(kr, 0, 32)};
+    }
+
+    /** The numbers of U 0, .., V in a ciphertext, as they stand there. */
+    static int[][] unpacked(int set, byte[] c) {
+        int k = K[set];
+        int[][] answer = new int[k + 1][];
+        for (int j = 0; j <= k; j++) {
+            answer[j] = unbits(c, 32 * DU[set] * j, j < k ? DU[set] : DV[set]);
+        }
+        return answer;
+    }
+
+    /** U 0, .., V of OPEN. */
+    static int[][] decompressed(int set, byte[] c) {
+        int[][] answer = unpacked(set, c);
+        for (int j = 0; j <= K[set]; j++) {
+            answer[j] = decompress(j < K[set] ? DU[set] : DV[set], answer[j]);
+        }
+        return answer;
+    }
+
+    /** What OPEN finds before COMPRESS 1 makes the message of it. */
+    static int[] found(int set, byte[] d, int[][] uv) {
+        int[] sum = new int[256];
+        for (int j = 0; j < K[set]; j++) {
+            sum = plus(sum, times(modulo(unbits(d, 384 * j, 12)), ntt(uv[j])));
+        }
+        return minus(uv[K[set]], unntt(sum));
     }
 
     /** The key, and one byte that is 1 if ENCRYPT gave c. */
     static byte[][] open(int set, byte[] d, byte[] c) {
         int k = K[set];
-        int du = DU[set];
-        int[] sum = new int[256];
-        for (int j = 0; j < k; j++) {
-            int[] u = decompress(du, unbits(c, 32 * du * j, du));
-            sum = plus(sum, times(modulo(unbits(d, 384 * j, 12)), ntt(u)));
-        }
-        int[] v = decompress(DV[set], unbits(c, 32 * du * k, DV[set]));
-        byte[] m = bits(compress(1, minus(v, unntt(sum))), 1);
+        byte[] m = bits(compress(1, found(set, d, decompressed(set, c))), 1);
         byte[] h = part(d, 768 * k + 32, 32);
         byte[] z = part(d, 768 * k + 64, 32);
         byte[] kr = sha3(512, join(m, h));

@@ -6,12 +6,8 @@ import java.util.Random;
 
 /** That Reference, which the other tests lean on, is right itself. */
 public final class ReferenceTest {
-    public static void main(String[] args) throws NoSuchAlgorithmException {
-        hashesAreThoseOfTheLibrary();
-        shakesAreThoseOfTheStandard();
-        transformTurnsProductsIntoPairProducts();
-        roundingIsHalvesUp();
-        Checks.finish("ReferenceTest");
+    public static void main(String[] args) {
+        Checks.run(ReferenceTest.class);
     }
 
     private static void hashesAreThoseOfTheLibrary() throws NoSuchAlgorithmException {

@@ -1,106 +1,127 @@
-import java.lang.reflect.Field;
-import java.lang.reflect.InvocationTargetException;
-import java.lang.reflect.Method;
 import java.util.Arrays;
 
 /**
- * SAMPLE's limit of 280 times three bytes. No seed is known that comes to it, so this test alone reaches inside: it
- * lets the sponge of an object move every lane to place 24, by which PERMUTE gives the same chosen block each time.
+ * "if 280 times three are not enough: ArithmeticException", in SAMPLE. No seed is known that comes to it, so this test
+ * reaches inside: it lets the sponge of an object move every lane to place 24, by which PERMUTE gives the same chosen
+ * block each time. 5 blocks of 168 bytes are 280 times three, and the hash of anything is the block's start.
  */
 public final class SampleLimitTest {
-    private static final String LIMIT = "throws.ArithmeticException";
     private static final int RATE = 168;
 
-    public static void main(String[] args) throws ReflectiveOperationException {
-        for (int set = 0; set < 3; set++) {
-            nothingFits(set);
-            justTooFew(set);
-            justEnough(set);
+    public static void main(String[] args) {
+        Checks.run(SampleLimitTest.class);
+    }
+
+    /** Slots that every call takes but for the limit: the noise of such a sponge is 0, and so is the packet. */
+    private static State ready(int set, int random, byte[] block) {
+        byte[] secret = new byte[Reference.secretSize(set)];
+        System.arraycopy(block, 0, secret, secret.length - 64, 32);
+        return State.filled().with(Example.RANDOM, new byte[random])
+                .with(Example.PUBLIC, new byte[Reference.publicSize(set)])
+                .with(Example.SECRET, secret)
+                .with(Example.PACKET, new byte[Reference.packetSize(set)]);
+    }
+
+    private static void refuses(String what, State before, byte[] block, State.Act act, String exception) {
+        before.stays(what, x -> {
+            fixSponge(x, block);
+            return act.on(x);
+        }, exception);
+    }
+
+    /** 51 numbers below q in each block make 255; and nothing changes. */
+    private static void keysAreRefusedWith255() {
+        for (int i = 0; i < 3; i++) {
+            int set = i;
+            byte[] block = blockWith(51);
+            refuses("kemKeys(" + set + ")", ready(set, 64, block), block, x -> x.kemKeys(set), Checks.LIMIT);
         }
-        lastTripleCounts();
-        Checks.finish("SampleLimitTest");
     }
 
-    private static void nothingFits(int set) throws ReflectiveOperationException {
-        ModuleKem x = ready(set, blockWith(0));
-        refusesAndStays(x, set);
+    private static void wrappingIsRefusedWith255() {
+        for (int i = 0; i < 3; i++) {
+            int set = i;
+            byte[] block = blockWith(51);
+            refuses("kemWrap(" + set + ")", ready(set, 32, block), block, x -> x.kemWrap(set), Checks.LIMIT);
+        }
     }
 
-    /** 5 blocks have 280 times three bytes: 51 numbers below q in each make 255. */
-    private static void justTooFew(int set) throws ReflectiveOperationException {
-        ModuleKem x = ready(set, blockWith(51));
-        refusesAndStays(x, set);
+    private static void openingIsRefusedWith255() {
+        for (int i = 0; i < 3; i++) {
+            int set = i;
+            byte[] block = blockWith(51);
+            refuses("kemOpen(" + set + ")", ready(set, 0, block), block, x -> x.kemOpen(set), Checks.LIMIT);
+        }
     }
 
-    private static void justEnough(int set) throws ReflectiveOperationException {
-        ModuleKem x = ready(set, blockWith(52));
-        // All noise of such a sponge is 0, and so the packet of zeros is the one that ENCRYPT gives.
-        Checks.due("kemOpen(" + set + ") with 52 a block", () -> x.kemOpen(set), 1);
-        Checks.due("kemWrap(" + set + ") with 52 a block", () -> x.kemWrap(set), Reference.packetSize(set));
-        x.resize(0, 64);
-        Checks.due("kemKeys(" + set + ") with 52 a block", () -> x.kemKeys(set), Reference.secretSize(set));
+    private static void allAreRefusedWithNone() {
+        for (int i = 0; i < 3; i++) {
+            int set = i;
+            byte[] block = blockWith(0);
+            refuses("kemKeys(" + set + ")", ready(set, 64, block), block, x -> x.kemKeys(set), Checks.LIMIT);
+            refuses("kemWrap(" + set + ")", ready(set, 32, block), block, x -> x.kemWrap(set), Checks.LIMIT);
+            refuses("kemOpen(" + set + ")", ready(set, 0, block), block, x -> x.kemOpen(set), Checks.LIMIT);
+        }
     }
 
-    /** With the first block set apart from the other four, the 256th number can be the very last. */
-    private static void lastTripleCounts() throws ReflectiveOperationException {
+    /** 52 numbers below q in each block make 260. */
+    private static void noneIsRefusedWith256() {
+        for (int i = 0; i < 3; i++) {
+            int set = i;
+            byte[] block = blockWith(52);
+            ModuleKem x = ready(set, 32, block).make();
+            fixSponge(x, block);
+            Checks.due("kemOpen(" + set + ")", () -> x.kemOpen(set), 1);
+            Checks.due("kemWrap(" + set + ")", () -> x.kemWrap(set), Reference.packetSize(set));
+            x.resize(0, 64);
+            Checks.due("kemKeys(" + set + ")", () -> x.kemKeys(set), Reference.secretSize(set));
+        }
+    }
+
+    /** What is thrown first where the limit would be come to as well. */
+    private static void othersAreThrownBeforeTheLimit() {
+        for (int i = 0; i < 3; i++) {
+            int set = i;
+            byte[] block = blockWith(51);
+            State ready = ready(set, 33, block);
+            for (int bad : Checks.BAD_SETS) {
+                refuses("kemKeys(" + bad + ")", ready, block, x -> x.kemKeys(bad), Checks.ARGUMENT);
+                refuses("kemWrap(" + bad + ")", ready, block, x -> x.kemWrap(bad), Checks.ARGUMENT);
+                refuses("kemOpen(" + bad + ")", ready, block, x -> x.kemOpen(bad), Checks.ARGUMENT);
+            }
+            refuses("kemKeys, RANDOM of 33", ready, block, x -> x.kemKeys(set), Checks.STATE);
+            refuses("kemWrap, RANDOM of 33", ready, block, x -> x.kemWrap(set), Checks.STATE);
+            State shortened = ready(set, 32, block).with(Example.PUBLIC, new byte[1]).with(Example.PACKET, new byte[1]);
+            refuses("kemWrap, PUBLIC of 1", shortened, block, x -> x.kemWrap(set), Checks.MALFORMED);
+            refuses("kemOpen, PACKET of 1", shortened, block, x -> x.kemOpen(set), Checks.MALFORMED);
+            State spoilt = ready(set, 32, blockWith(0))
+                    .with(Example.PUBLIC, Example.withNumber(new byte[Reference.publicSize(set)], 0, 3329));
+            refuses("kemWrap, a number of q", spoilt, block, x -> x.kemWrap(set), Checks.MALFORMED);
+            refuses("kemOpen, another hash", spoilt, block, x -> x.kemOpen(set), Checks.MALFORMED);
+        }
+    }
+
+    /** With the first block set apart from the other four, the 256th number can be the very last of the 280 triples. */
+    private static void lastNumberOfTheLastThreeCounts() {
         Checks.due("52 and four times 51 numbers", () -> sampled(blockWith(52), blockWith(51)), "enough");
-        Checks.due("51 and four times 51 numbers", () -> sampled(blockWith(51), blockWith(51)), LIMIT);
+    }
+
+    /** A 281st triple would have the 256th. */
+    private static void oneThreeMoreDoesNotCount() {
+        Checks.due("51 and four times 51 numbers", () -> sampled(blockWith(51), blockWith(51)), Checks.LIMIT);
     }
 
     private static String sampled(byte[] first, byte[] others) {
-        try {
-            ModuleKem x = new ModuleKem();
-            fixSponge(x, others);
-            Object kem = inside(x, "kem");
-            Object sponge = inside(kem, "sponge");
-            Method start = sponge.getClass().getDeclaredMethod("start", int.class);
-            start.setAccessible(true);
-            start.invoke(sponge, RATE);
-            long[] lanes = (long[]) inside(sponge, "lanes");
-            for (int i = 0; i < lanes.length; i++) {
-                lanes[i] = lane(first, i);
-            }
-            Method sample = kem.getClass().getDeclaredMethod("sample", int[].class);
-            sample.setAccessible(true);
-            sample.invoke(kem, new int[256]);
-            return "enough";
-        } catch (InvocationTargetException e) {
-            return "throws." + e.getCause().getClass().getSimpleName();
-        } catch (ReflectiveOperationException e) {
-            return e.toString();
-        }
-    }
-
-    private static void refusesAndStays(ModuleKem x, int set) {
-        Checks.due("kemOpen(" + set + ")", () -> x.kemOpen(set), LIMIT);
-        Checks.due("kemWrap(" + set + ")", () -> x.kemWrap(set), LIMIT);
-        x.resize(0, 64);
-        Checks.due("kemKeys(" + set + ")", () -> x.kemKeys(set), LIMIT);
-        x.resize(0, 32);
-        Checks.due("PUBLIC stays", () -> x.same(1, 3), true);
-        Checks.due("SECRET stays", () -> x.same(2, 4), true);
-        Checks.due("PACKET stays", () -> x.same(5, 7), true);
-        Checks.due("SHARED's length stays", () -> x.length(6), 9);
-        Checks.due("SHARED's bytes stay", () -> x.word(6, 0), 0x0700000000000000L);
-    }
-
-    /** An object with slots of the right sizes, their copies in 3, 4 and 7, and a sponge that gives only the block. */
-    private static ModuleKem ready(int set, byte[] block) throws ReflectiveOperationException {
-        int k = Reference.K[set];
         ModuleKem x = new ModuleKem();
-        x.resize(0, 32);
-        x.resize(1, Reference.publicSize(set));
-        byte[] secret = new byte[Reference.secretSize(set)];
-        System.arraycopy(block, 0, secret, 768 * k + 32, 32);
-        Checks.put(x, 2, secret);
-        x.resize(5, Reference.packetSize(set));
-        x.resize(6, 9);
-        x.alter(6, 0, 7);
-        x.copy(1, 3);
-        x.copy(2, 4);
-        x.copy(5, 7);
-        fixSponge(x, block);
-        return x;
+        fixSponge(x, others);
+        Object sponge = Inside.sponge(x);
+        Inside.call(sponge, "start", RATE);
+        long[] lanes = (long[]) Inside.field(sponge, "lanes");
+        for (int i = 0; i < lanes.length; i++) {
+            lanes[i] = lane(first, i);
+        }
+        Inside.call(Inside.field(x, "kem"), "sample", (Object) new int[256]);
+        return "enough";
     }
 
     /**
@@ -124,11 +145,11 @@ public final class SampleLimitTest {
         }
     }
 
-    private static void fixSponge(ModuleKem x, byte[] block) throws ReflectiveOperationException {
-        Object sponge = inside(inside(x, "kem"), "sponge");
-        Arrays.fill((long[]) inside(sponge, "roundConstants"), 0);
-        Arrays.fill((int[]) inside(sponge, "targets"), 24);
-        long[] moved = (long[]) inside(sponge, "moved");
+    private static void fixSponge(ModuleKem x, byte[] block) {
+        Object sponge = Inside.sponge(x);
+        Arrays.fill((long[]) Inside.field(sponge, "roundConstants"), 0);
+        Arrays.fill((int[]) Inside.field(sponge, "targets"), 24);
+        long[] moved = (long[]) Inside.field(sponge, "moved");
         for (int row = 0; row < 5; row++) {
             for (int bit = 0; bit < 64; bit++) {
                 setRowBits(moved, row, bit, wantedBits(block, row, bit));
@@ -173,11 +194,5 @@ public final class SampleLimitTest {
                 }
             }
         }
-    }
-
-    private static Object inside(Object owner, String field) throws ReflectiveOperationException {
-        Field found = owner.getClass().getDeclaredField(field);
-        found.setAccessible(true);
-        return found.get(owner);
     }
 }
