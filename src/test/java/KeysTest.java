@@ -15,6 +15,12 @@ public final class KeysTest {
         before.becomes(what + ": kemKeys(" + set + ")", x -> x.kemKeys(set), SECRET_SIZES[set], after);
     }
 
+    private static void makesOn(ModuleKem x, Example example) {
+        Checks.due("kemKeys(" + example.set + ")", () -> x.kemKeys(example.set), SECRET_SIZES[example.set]);
+        Checks.holdsBytes("PUBLIC", x, Example.PUBLIC, example.publicKey);
+        Checks.holdsBytes("SECRET", x, Example.SECRET, example.secretKey);
+    }
+
     /** "set 0 .. 2": each of them. PUBLIC and SECRET alone change: RANDOM, the other slots and the tape stay. */
     private static void everySetIsTaken() {
         for (int set = 0; set < 3; set++) {
@@ -158,10 +164,7 @@ public final class KeysTest {
                 Example example = Example.of(set, 6);
                 ModuleKem x = example.beforeKeys().make();
                 x.kemKeys(first);
-                int number = set;
-                Checks.due("kemKeys", () -> x.kemKeys(number), SECRET_SIZES[set]);
-                Checks.holdsBytes("PUBLIC", x, Example.PUBLIC, example.publicKey);
-                Checks.holdsBytes("SECRET", x, Example.SECRET, example.secretKey);
+                makesOn(x, example);
             }
         }
     }
@@ -169,12 +172,7 @@ public final class KeysTest {
     private static void keysOfManySeeds() {
         for (int set = 0; set < 3; set++) {
             for (int i = 10; i < 40; i++) {
-                Example example = Example.of(set, i);
-                ModuleKem x = example.beforeKeys().make();
-                int number = set;
-                Checks.due("kemKeys", () -> x.kemKeys(number), SECRET_SIZES[set]);
-                Checks.holdsBytes("PUBLIC", x, Example.PUBLIC, example.publicKey);
-                Checks.holdsBytes("SECRET", x, Example.SECRET, example.secretKey);
+                makesOn(Example.of(set, i).beforeKeys().make(), Example.of(set, i));
             }
         }
     }

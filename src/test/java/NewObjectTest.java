@@ -56,14 +56,35 @@ public final class NewObjectTest {
         }
     }
 
-    /** "All memory is the suite's own": an object knows nothing of what another holds. */
-    private static void objectsAreApart() {
-        ModuleKem filled = State.filled().make();
+    /** "All memory is the suite's own": a new object is empty, whatever another one holds. */
+    private static void newObjectIsEmptyBesideAnother() {
+        State.filled().make();
         ModuleKem x = new ModuleKem();
-        Checks.due("the other's slot", () -> x.length(0), 0);
-        Checks.due("the other's tape", () -> x.feed(1, 2, 3, 4, 5), 20);
-        Checks.due("the first one's slot", () -> filled.length(0), 13);
-        Checks.due("the first one's tape", () -> filled.feed(1, 2, 3, 4, 5), 60);
+        for (int i = 0; i < 8; i++) {
+            int slot = i;
+            Checks.due("length(" + slot + ")", () -> x.length(slot), 0);
+        }
+        Checks.due("feed", () -> x.feed(1, 2, 3, 4, 5), 20);
+    }
+
+    /** Two objects, call by call in turn: neither has a byte of the other, on the tape or in a slot. */
+    private static void objectsAreApart() {
+        ModuleKem x = new ModuleKem();
+        ModuleKem y = new ModuleKem();
+        for (int i = 0; i < 8; i++) {
+            int slot = i;
+            Checks.due("feed", () -> x.feed(slot, 1, 2, 3, 4), 20);
+            Checks.due("feed of the other", () -> y.feed(100 + slot, 5, 6, 7, 8), 20);
+            Checks.due("end", () -> x.end(slot, 20), 20);
+            Checks.due("end of the other", () -> y.end(slot, 19), 19);
+        }
+        for (int i = 0; i < 8; i++) {
+            int slot = i;
+            Checks.due("length", () -> x.length(slot), 20);
+            Checks.due("length of the other", () -> y.length(slot), 19);
+            Checks.due("word", () -> x.word(slot, 0), (long) slot << 32 | 1);
+            Checks.due("word of the other", () -> y.word(slot, 0), (100L + slot) << 32 | 5);
+        }
     }
 
     /** "An object is used for at most 512 calls": 64 rounds of 8 calls, the last of which answers as the first does. */

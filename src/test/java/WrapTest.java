@@ -16,6 +16,12 @@ public final class WrapTest {
         before.becomes(what + ": kemWrap(" + set + ")", x -> x.kemWrap(set), PACKET_SIZES[set], after);
     }
 
+    private static void wrapsOn(ModuleKem x, int set, byte[] packet, byte[] key) {
+        Checks.due("kemWrap(" + set + ")", () -> x.kemWrap(set), PACKET_SIZES[set]);
+        Checks.holdsBytes("SHARED", x, Example.SHARED, key);
+        Checks.holdsBytes("PACKET", x, Example.PACKET, packet);
+    }
+
     private static void refuses(String what, State before, int set, String exception) {
         before.stays(what + ": kemWrap(" + set + ")", x -> x.kemWrap(set), exception);
     }
@@ -170,9 +176,9 @@ public final class WrapTest {
             int set = i;
             byte[] p = Example.of(set, 4).publicKey;
             int numbers = 256 * Reference.K[set];
-            for (int from = 0; from < numbers; from += 64) {
+            for (int from = 0; from < numbers; from += 32) {
                 ModuleKem x = Example.of(set, 4).beforeWrap().make();
-                for (int place = from; place < from + 64; place++) {
+                for (int place = from; place < from + 32; place++) {
                     byte[] spoilt = Example.withNumber(p, place, Q);
                     int at = 12 * place / 8;
                     x.alter(Example.PUBLIC, at, (p[at] ^ spoilt[at]) & 255);
@@ -181,7 +187,7 @@ public final class WrapTest {
                     x.alter(Example.PUBLIC, at, (p[at] ^ spoilt[at]) & 255);
                     x.alter(Example.PUBLIC, at + 1, (p[at + 1] ^ spoilt[at + 1]) & 255);
                 }
-                Checks.due("set right again", () -> x.kemWrap(set), PACKET_SIZES[set]);
+                wrapsOn(x, set, Example.of(set, 4).packet, Example.of(set, 4).key);
             }
         }
     }
@@ -231,16 +237,13 @@ public final class WrapTest {
     }
 
     private static void eachBitOfTheMessageCounts() {
-        for (int i = 0; i < 3; i++) {
-            int set = i;
+        for (int set = 0; set < 3; set++) {
             Example example = Example.of(set, 7);
             for (int bit = 0; bit < 256; bit += 17) {
                 byte[] message = State.altered(example.message, bit / 8, 1 << bit % 8);
                 ModuleKem x = example.beforeWrap().with(Example.RANDOM, message).make();
                 byte[][] wrapped = Reference.wrap(set, example.publicKey, message);
-                Checks.due("bit " + bit, () -> x.kemWrap(set), PACKET_SIZES[set]);
-                Checks.holdsBytes("SHARED", x, Example.SHARED, wrapped[1]);
-                Checks.holdsBytes("PACKET", x, Example.PACKET, wrapped[0]);
+                wrapsOn(x, set, wrapped[0], wrapped[1]);
             }
         }
     }
@@ -280,14 +283,10 @@ public final class WrapTest {
     }
 
     private static void packetsOfManyKeys() {
-        for (int i = 0; i < 3; i++) {
-            int set = i;
+        for (int set = 0; set < 3; set++) {
             for (int number = 10; number < 40; number++) {
                 Example example = Example.of(set, number);
-                ModuleKem x = example.beforeWrap().make();
-                Checks.due("kemWrap", () -> x.kemWrap(set), PACKET_SIZES[set]);
-                Checks.holdsBytes("SHARED", x, Example.SHARED, example.key);
-                Checks.holdsBytes("PACKET", x, Example.PACKET, example.packet);
+                wrapsOn(example.beforeWrap().make(), set, example.packet, example.key);
             }
         }
     }
@@ -295,17 +294,14 @@ public final class WrapTest {
     /** On one object, set after set, and the same one again: nothing is left of what was wrapped before. */
     private static void setsOneAfterTheOther() {
         for (int first = 0; first < 3; first++) {
-            for (int i = 0; i < 3; i++) {
-                int set = i;
+            for (int set = 0; set < 3; set++) {
                 Example before = Example.of(first, 41);
                 Example example = Example.of(set, 42);
                 ModuleKem x = before.beforeWrap().withTape(new byte[0]).make();
                 x.kemWrap(first);
                 Checks.put(x, Example.PUBLIC, example.publicKey);
                 Checks.put(x, Example.RANDOM, example.message);
-                Checks.due("kemWrap", () -> x.kemWrap(set), PACKET_SIZES[set]);
-                Checks.holdsBytes("SHARED", x, Example.SHARED, example.key);
-                Checks.holdsBytes("PACKET", x, Example.PACKET, example.packet);
+                wrapsOn(x, set, example.packet, example.key);
             }
         }
     }
