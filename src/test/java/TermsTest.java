@@ -226,7 +226,7 @@ public final class TermsTest {
         }
     }
 
-    /** "DECOMPRESS 1 of the bits of m": q / 2 is 1664 and a half, and goes up; with 1664 the packet would be another. */
+    /** "DECOMPRESS 1 of the bits of m": q / 2 is 1664 and a half, and goes up; with 1664 PACKET would be another. */
     private static void decompressOfAMessageGoesUp() {
         for (int set = 0; set < 3; set++) {
             int d = Reference.DV[set];
